@@ -966,7 +966,6 @@ public final class Pirateindex {
             if (dug) {
                 pay(where.treasure);
                 where.treasureThere = true;
-                dug = false;
             }
             where = cameFrom;
             map.clear();

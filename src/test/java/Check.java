@@ -17,8 +17,18 @@ final class Check {
         try {
             return String.valueOf(call.answer());
         } catch (RuntimeException e) {
-            return "throws " + e.getClass().getSimpleName();
+            return "throws " + e.getClass().getSimpleName() + (isByTheProgram(e) ? "" : " of the library or the machine");
         }
+    }
+
+    /** A list or the machine throws the same classes, but the program must throw each exception itself. */
+    private static boolean isByTheProgram(RuntimeException e) {
+        StackTraceElement[] trace = e.getStackTrace();
+        if (trace.length == 0) {
+            return false;
+        }
+        String thrower = trace[0].getClassName();
+        return thrower.startsWith("Pirateindex") || thrower.startsWith("PlainModel");
     }
 
     static void due(String what, Object want, Call call) {

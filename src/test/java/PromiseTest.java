@@ -1084,5 +1084,15 @@ public final class PromiseTest {
         Check.due("35 rebuilt", true, x::isTrue);
         Check.due("35 the map stays", 2, x::wipe);
         causesAre("35 no causes", x, "");
+        Pirateindex poor = new Pirateindex();
+        poor.island(0, 0, 0);
+        poor.island(60, 80, 0);
+        poor.ship();
+        Check.due("35 a hundred coins", true, poor::isTrue);
+        poor.find(0, 1, 0);
+        type(poor, 0, 0);
+        poor.sail(0);
+        Check.due("35 no coins", 0, () -> poor.coins(0));
+        Check.due("35 no coins are enough", true, poor::isTrue);
     }
 }
