@@ -17,7 +17,8 @@ final class Check {
         try {
             return String.valueOf(call.answer());
         } catch (RuntimeException e) {
-            return "throws " + e.getClass().getSimpleName() + (isByTheProgram(e) ? "" : " of the library or the machine");
+            String origin = isByTheProgram(e) ? "" : " of the library or the machine";
+            return "throws " + e.getClass().getSimpleName() + origin;
         }
     }
 
