@@ -2,9 +2,8 @@ import java.util.Random;
 
 /** Long runs of calls by fixed seeds: each answer, and the whole state, is compared with the plain model's. */
 public final class ModelTest {
-    private static final int RUNS = 800;
-    private static final int CALLS = 300;
-    private static final int LOOK_EVERY = 20;
+    private static final int RUNS = 4000;
+    private static final int MOST_CALLS = 512;
     private static final int[] EXTREMES = {Integer.MIN_VALUE, -1, 99, 1000, Integer.MAX_VALUE};
 
     private final Random chance;
@@ -15,6 +14,7 @@ public final class ModelTest {
     private final int islands;
     private final int places;
     private final boolean strict;
+    private final int lookEvery;
     private int callsMade = 0;
 
     private ModelTest(int seed) {
@@ -24,6 +24,7 @@ public final class ModelTest {
         islands = 1 + chance.nextInt(6);
         places = 3 + chance.nextInt(38);
         strict = chance.nextBoolean();
+        lookEvery = 20 + chance.nextInt(300);
     }
 
     public static void main(String[] args) {
@@ -40,13 +41,12 @@ public final class ModelTest {
         for (int i = chance.nextInt(6); i > 0; i--) {
             ship();
         }
-        for (int i = 0; i < CALLS; i++) {
+        for (int i = 1; callsMade < MOST_CALLS; i++) {
             step();
-            if (i % LOOK_EVERY == 0) {
+            if (i % lookEvery == 0) {
                 look();
             }
         }
-        look();
     }
 
     /** Now and then a number far off. */
@@ -116,34 +116,34 @@ public final class ModelTest {
         for (int i = 0; i <= words; i++) {
             aWord(i);
         }
-        same("segments()", String.valueOf(y.segments()), String.valueOf(x.segments()));
-        same("causes()", String.valueOf(y.causes()), String.valueOf(x.causes()));
+        same("segments()", y::segments, x::segments);
+        same("causes()", y::causes, x::causes);
         for (int i = 0; i < 3; i++) {
             int at = i;
-            same("cause(" + at + ")", Check.told(() -> y.cause(at)), Check.told(() -> x.cause(at)));
+            same("cause(" + at + ")", () -> y.cause(at), () -> x.cause(at));
         }
-        same("hits()", Check.told(y::hits), Check.told(x::hits));
-        same("struckShare()", Check.told(y::struckShare), Check.told(x::struckShare));
-        same("meanSize()", Check.told(y::meanSize), Check.told(x::meanSize));
-        same("checksum()", Check.told(y::checksum), Check.told(x::checksum));
-        same("isTrue()", "true", Check.told(x::isTrue));
+        same("hits()", y::hits, x::hits);
+        same("struckShare()", y::struckShare, x::struckShare);
+        same("meanSize()", y::meanSize, x::meanSize);
+        same("checksum()", y::checksum, x::checksum);
+        same("isTrue()", () -> true, x::isTrue);
     }
 
     private void island(int i) {
-        same("isThere(" + i + ")", Check.told(() -> y.isThere(i)), Check.told(() -> x.isThere(i)));
+        same("isThere(" + i + ")", () -> y.isThere(i), () -> x.isThere(i));
         count(i);
         scoreBits(i);
     }
 
     private void segment(int i) {
-        same("segment(" + i + ")", Check.told(() -> y.segment(i)), Check.told(() -> x.segment(i)));
-        same("size(" + i + ")", Check.told(() -> y.size(i)), Check.told(() -> x.size(i)));
+        same("segment(" + i + ")", () -> y.segment(i), () -> x.segment(i));
+        same("size(" + i + ")", () -> y.size(i), () -> x.size(i));
     }
 
     private void ship(int i) {
-        same("at(" + i + ")", Check.told(() -> y.at(i)), Check.told(() -> x.at(i)));
-        same("coins(" + i + ")", Check.told(() -> y.coins(i)), Check.told(() -> x.coins(i)));
-        same("hasMap(" + i + ")", Check.told(() -> y.hasMap(i)), Check.told(() -> x.hasMap(i)));
+        same("at(" + i + ")", () -> y.at(i), () -> x.at(i));
+        same("coins(" + i + ")", () -> y.coins(i), () -> x.coins(i));
+        same("hasMap(" + i + ")", () -> y.hasMap(i), () -> x.hasMap(i));
         if (i < 2) {
             for (int rank = 0; rank < 4; rank++) {
                 hit(i, rank);
@@ -152,85 +152,88 @@ public final class ModelTest {
     }
 
     private void aFind(int i) {
-        same("segmentOf(" + i + ")", Check.told(() -> y.segmentOf(i)), Check.told(() -> x.segmentOf(i)));
-        same("isStruck(" + i + ")", Check.told(() -> y.isStruck(i)), Check.told(() -> x.isStruck(i)));
+        same("segmentOf(" + i + ")", () -> y.segmentOf(i), () -> x.segmentOf(i));
+        same("isStruck(" + i + ")", () -> y.isStruck(i), () -> x.isStruck(i));
     }
 
     private void aWord(int i) {
-        same("weight(" + i + ")", Check.told(() -> y.weight(i)), Check.told(() -> x.weight(i)));
-        same("postings(" + i + ")", Check.told(() -> y.postings(i)), Check.told(() -> x.postings(i)));
+        same("weight(" + i + ")", () -> y.weight(i), () -> x.weight(i));
+        same("postings(" + i + ")", () -> y.postings(i), () -> x.postings(i));
         for (int k = 0; k < 12; k += 1 + chance.nextInt(3)) {
             int at = k;
-            same("posting(" + i + ", " + k + ")", Check.told(() -> y.posting(i, at)),
-                    Check.told(() -> x.posting(i, at)));
+            same("posting(" + i + ", " + k + ")", () -> y.posting(i, at),
+                    () -> x.posting(i, at));
         }
     }
 
-    private void same(String call, String want, String got) {
-        Check.same(name + ", call " + callsMade + ", " + call, want, got);
-        callsMade++;
+    /** Makes no call any more when the object has had all that the document allows. */
+    private void same(String call, Check.Call want, Check.Call got) {
+        if (callsMade < MOST_CALLS) {
+            Check.same(name + ", call " + callsMade + ", " + call, Check.told(want), Check.told(got));
+            callsMade++;
+        }
     }
 
     private void island(int a, int b, int c) {
-        same("island(" + a + ", " + b + ", " + c + ")", Check.told(() -> y.island(a, b, c)),
-                Check.told(() -> x.island(a, b, c)));
+        same("island(" + a + ", " + b + ", " + c + ")", () -> y.island(a, b, c),
+                () -> x.island(a, b, c));
     }
 
     private void find(int a, int b, int c) {
-        same("find(" + a + ", " + b + ", " + c + ")", Check.told(() -> y.find(a, b, c)),
-                Check.told(() -> x.find(a, b, c)));
+        same("find(" + a + ", " + b + ", " + c + ")", () -> y.find(a, b, c),
+                () -> x.find(a, b, c));
     }
 
     private void plant(int a, int b, int c, int d) {
-        same("plant(" + a + ", " + b + ", " + c + ", " + d + ")", Check.told(() -> y.plant(a, b, c, d)),
-                Check.told(() -> x.plant(a, b, c, d)));
+        same("plant(" + a + ", " + b + ", " + c + ", " + d + ")", () -> y.plant(a, b, c, d),
+                () -> x.plant(a, b, c, d));
     }
 
     private void ship() {
-        same("ship()", Check.told(y::ship), Check.told(x::ship));
+        same("ship()", y::ship, x::ship);
     }
 
     private void word(int a, int b) {
-        same("word(" + a + ", " + b + ")", Check.told(() -> y.word(a, b)), Check.told(() -> x.word(a, b)));
+        same("word(" + a + ", " + b + ")", () -> y.word(a, b), () -> x.word(a, b));
     }
 
     private void wipe() {
-        same("wipe()", Check.told(y::wipe), Check.told(x::wipe));
+        same("wipe()", y::wipe, x::wipe);
     }
 
     private void sail(int a) {
-        same("sail(" + a + ")", Check.told(() -> y.sail(a)), Check.told(() -> x.sail(a)));
+        same("sail(" + a + ")", () -> y.sail(a), () -> x.sail(a));
     }
 
     private void dig(int a) {
-        same("dig(" + a + ")", Check.told(() -> y.dig(a)), Check.told(() -> x.dig(a)));
+        same("dig(" + a + ")", () -> y.dig(a), () -> x.dig(a));
     }
 
     private void strike(int a) {
-        same("strike(" + a + ")", Check.told(() -> y.strike(a)), Check.told(() -> x.strike(a)));
+        same("strike(" + a + ")", () -> y.strike(a), () -> x.strike(a));
     }
 
     private void storm(int a) {
-        same("storm(" + a + ")", Check.told(() -> y.storm(a)), Check.told(() -> x.storm(a)));
+        same("storm(" + a + ")", () -> y.storm(a), () -> x.storm(a));
     }
 
     private void rebuild() {
-        same("rebuild()", Check.told(y::rebuild), Check.told(x::rebuild));
+        same("rebuild()", y::rebuild, x::rebuild);
     }
 
     private void merge(int a, int b) {
-        same("merge(" + a + ", " + b + ")", Check.told(() -> y.merge(a, b)), Check.told(() -> x.merge(a, b)));
+        same("merge(" + a + ", " + b + ")", () -> y.merge(a, b), () -> x.merge(a, b));
     }
 
     private void hit(int a, int b) {
-        same("hit(" + a + ", " + b + ")", Check.told(() -> y.hit(a, b)), Check.told(() -> x.hit(a, b)));
+        same("hit(" + a + ", " + b + ")", () -> y.hit(a, b), () -> x.hit(a, b));
     }
 
     private void count(int a) {
-        same("count(" + a + ")", Check.told(() -> y.count(a)), Check.told(() -> x.count(a)));
+        same("count(" + a + ")", () -> y.count(a), () -> x.count(a));
     }
 
     private void scoreBits(int a) {
-        same("scoreBits(" + a + ")", Check.told(() -> y.scoreBits(a)), Check.told(() -> x.scoreBits(a)));
+        same("scoreBits(" + a + ")", () -> y.scoreBits(a), () -> x.scoreBits(a));
     }
 }

@@ -618,10 +618,10 @@ public final class PromiseTest {
         Check.due("20 thirds", Float.floatToIntBits((second + third) * 3f), () -> x.scoreBits(0));
         type(x, 0, 0, 1, 0, 2, 0);
         Check.due("20 one by one", Float.floatToIntBits((first + second + third) * 3f), () -> x.scoreBits(0));
-        theHighestScore();
+        aHighScore();
     }
 
-    private static void theHighestScore() {
+    private static void aHighScore() {
         Pirateindex x = new Pirateindex();
         for (int i = 0; i < 12; i++) {
             x.island(i, 0, 0);
@@ -630,7 +630,7 @@ public final class PromiseTest {
             x.find(i % 4, 11, i % 4);
         }
         type(x, 0, 0, 1, 0, 2, 0, 3, 0);
-        Check.due("20 the highest", Float.floatToIntBits(28f * 810000f), () -> x.scoreBits(11));
+        Check.due("20 a high one", Float.floatToIntBits(28f * 810000f), () -> x.scoreBits(11));
     }
 
     private static void promise21Weight() {
