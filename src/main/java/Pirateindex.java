@@ -132,6 +132,7 @@ public final class Pirateindex {
         Segment dropped = segmentNumbered(segment);
         requireClosed(dropped);
         shelf.lose(dropped);
+        takeFromIndex(dropped);
         return lostFinds();
     }
 
@@ -143,7 +144,7 @@ public final class Pirateindex {
         }
         for (int i = 0; i < log.size(); i++) {
             if (log.get(i).isLost()) {
-                shelf.put(log.get(i));
+                store(log.get(i));
             }
         }
         return lost;
@@ -305,6 +306,7 @@ public final class Pirateindex {
             throw new UnsupportedOperationException("the find is struck");
         }
         judged.struck = true;
+        index.leave(judged);
         if (judged.rival != null) {
             judged.rival.pay(STRIKE_FINE);
         }
@@ -421,9 +423,19 @@ public final class Pirateindex {
 
     private int enter(Find find) {
         log.add(find);
-        index.enter(find);
-        shelf.put(find);
+        store(find);
         return find.number;
+    }
+
+    private void store(Find find) {
+        shelf.put(find);
+        index.enter(find);
+    }
+
+    private void takeFromIndex(Segment dropped) {
+        for (int i = 0; i < dropped.finds.size(); i++) {
+            index.leave(dropped.finds.get(i));
+        }
     }
 
     private int lostFinds() {
@@ -557,13 +569,9 @@ public final class Pirateindex {
     }
 
     private boolean postingsAreUnstruck() {
-        for (int word = 0; word <= LAST_WORD; word++) {
-            int postings = index.postingsOf(word);
-            for (int i = 0; i < postings; i++) {
-                Find find = index.postingAt(word, i);
-                if (find == null || find.struck) {
-                    return false;
-                }
+        for (int i = 0; i < index.row.size(); i++) {
+            if (index.row.get(i).struck) {
+                return false;
             }
         }
         return true;
@@ -579,7 +587,7 @@ public final class Pirateindex {
     }
 
     private boolean hitsAgree() {
-        shelf.gather(gathered);
+        shelf.gatherUnstruck(gathered);
         for (int i = 0; i < isles.size(); i++) {
             Isle isle = isles.get(i);
             if (tally.choices(gathered, typed, isle.number) != choicesOn(isle, typed)) {
@@ -640,10 +648,6 @@ public final class Pirateindex {
             this.rival = rival;
         }
 
-        boolean isPostingOf(int word) {
-            return this.word == word && segment != null && !struck;
-        }
-
         boolean isLost() {
             return segment == null && !struck;
         }
@@ -659,7 +663,7 @@ public final class Pirateindex {
         }
     }
 
-    /** All finds by words, islands, places and numbers; those that are no postings are passed over. */
+    /** The postings of all words: the finds in segments that are not struck, by words, islands, places and numbers. */
     private static final class Index {
         final ArrayList<Find> row;
 
@@ -675,10 +679,20 @@ public final class Pirateindex {
             row.add(spot, find);
         }
 
+        /** A find that is no posting, as it is struck or in no segment, is not there to leave. */
+        void leave(Find find) {
+            for (int i = 0; i < row.size(); i++) {
+                if (row.get(i) == find) {
+                    row.remove(i);
+                    return;
+                }
+            }
+        }
+
         int postingsOf(int word) {
             int found = 0;
             for (int i = 0; i < row.size(); i++) {
-                if (row.get(i).isPostingOf(word)) {
+                if (row.get(i).word == word) {
                     found++;
                 }
             }
@@ -690,7 +704,7 @@ public final class Pirateindex {
             int passed = 0;
             for (int i = 0; i < row.size(); i++) {
                 Find find = row.get(i);
-                if (find.isPostingOf(word)) {
+                if (find.word == word) {
                     if (passed == index) {
                         return find;
                     }
@@ -705,7 +719,7 @@ public final class Pirateindex {
             int last = NONE;
             for (int i = 0; i < row.size(); i++) {
                 Find find = row.get(i);
-                if (find.isPostingOf(word) && find.island != last) {
+                if (find.word == word && find.island != last) {
                     islands++;
                     last = find.island;
                 }
@@ -741,7 +755,7 @@ public final class Pirateindex {
             Arrays.fill(here, 0);
             for (int i = 0; i < finds.size(); i++) {
                 Find find = finds.get(i);
-                boolean wanted = find.isPostingOf(word) && find.island == island;
+                boolean wanted = find.word == word && find.island == island;
                 if (wanted && find.place >= 0 && find.place < here.length) {
                     here[find.place]++;
                 }
@@ -749,19 +763,19 @@ public final class Pirateindex {
         }
 
         private void begin() {
-            System.arraycopy(here, 0, ends, 0, ends.length);
+            System.arraycopy(here, 0, ends, 0, Math.min(here.length, ends.length));
         }
 
         /** From the last place down, as the ends ahead of a place must still be those of the word ahead. */
         private void follow(int distance) {
-            for (int place = LAST_PLACE; place >= 0; place--) {
+            for (int place = Math.min(here.length, ends.length) - 1; place >= 0; place--) {
                 ends[place] = here[place] * sumOfEnds(place - 1 - distance, place - 1);
             }
         }
 
         private int sumOfEnds(int first, int last) {
             int sum = 0;
-            for (int place = Math.max(first, 0); place <= last && place < ends.length; place++) {
+            for (int place = first < 0 ? 0 : first; place <= last && place < ends.length; place++) {
                 sum += ends[place];
             }
             return sum;
@@ -857,12 +871,14 @@ public final class Pirateindex {
             return times;
         }
 
-        void gather(ArrayList<Find> all) {
+        void gatherUnstruck(ArrayList<Find> all) {
             all.clear();
             for (int i = 0; i < row.size(); i++) {
                 ArrayList<Find> finds = row.get(i).finds;
                 for (int k = 0; k < finds.size(); k++) {
-                    all.add(finds.get(k));
+                    if (!finds.get(k).struck) {
+                        all.add(finds.get(k));
+                    }
                 }
             }
         }

@@ -24,6 +24,7 @@ public final class InsideTest {
         promise11Rebuild();
         promise11Refused();
         promise35Finds();
+        promise35Struck();
         promise35Coins();
         promise35Hits();
         Check.end("InsideTest");
@@ -123,6 +124,17 @@ public final class InsideTest {
         }
     }
 
+    /** Of twelve finds the struck one is put back among the postings, first and last; no map is typed. */
+    private static void promise35Struck() throws Exception {
+        for (int find : new int[] {0, 11}) {
+            Script script = new Script("35 isTrue: struck find " + find + " is a posting")
+                    .play(ISLES + "12 times find(0, 0, 0); strike(" + find + "); postings(0) = 11; isTrue() = true");
+            List<Object> row = list(inside(script.object(), "index"), "row");
+            row.add(find == 0 ? 0 : row.size(), list(script.object(), "log").get(find));
+            script.play("postings(0) = 12; isTrue() = false");
+        }
+    }
+
     private static void promise35Coins() throws Exception {
         for (int ship : new int[] {0, 4}) {
             Script script = new Script("35 isTrue: ship " + ship + " has -1 coins").play(ISLES + "5 times ship()");
@@ -136,7 +148,7 @@ public final class InsideTest {
         }
     }
 
-    /** The index has lost a posting, so that there is one choice fewer than by the segments. */
+    /** The index has a posting fewer or more than the segments have, so that there is another number of choices. */
     private static void promise35Hits() throws Exception {
         for (int island = 0; island < 2; island++) {
             Script script = new Script("35 isTrue: the index has a posting on island " + island + " fewer")
@@ -146,5 +158,9 @@ public final class InsideTest {
             row.remove(island == 0 ? 0 : row.size() - 1);
             script.play("isTrue() = false");
         }
+        Script script = new Script("35 isTrue: the index has a find that is in no segment")
+                .play(ISLES + "10 times find(0, 0, 0); storm(0); word(0, 0); isTrue() = true");
+        list(inside(script.object(), "index"), "row").add(list(script.object(), "log").get(9));
+        script.play("hits() = 1; isTrue() = false");
     }
 }
