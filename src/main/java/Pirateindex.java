@@ -653,9 +653,6 @@ public final class Pirateindex {
         }
 
         boolean standsBefore(Find other) {
-            if (word != other.word) {
-                return word < other.word;
-            }
             if (island != other.island) {
                 return island < other.island;
             }
@@ -663,7 +660,7 @@ public final class Pirateindex {
         }
     }
 
-    /** The postings of all words: the finds in segments that are not struck, by words, islands, places and numbers. */
+    /** The postings of all words: the finds in segments that are not struck, by islands, places and numbers. */
     private static final class Index {
         final ArrayList<Find> row;
 
